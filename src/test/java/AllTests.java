@@ -15,6 +15,13 @@ public final class AllTests {
         JourneysTest.class,
         HoursTest.class,
         WaysTest.class,
+        EdgesOfTownsTest.class,
+        EdgesOfRumoursTest.class,
+        EdgesOfBagsTest.class,
+        EdgesOfJourneysTest.class,
+        EdgesOfHoursTest.class,
+        EdgesOfWaysTest.class,
+        EdgesOfExceptionsTest.class,
         WildCallsTest.class,
     };
 

@@ -5,6 +5,11 @@ final class Check {
         void make();
     }
 
+    /** A call with one number that is looked at. */
+    interface CallWith {
+        void make(int number);
+    }
+
     static final Class<? extends RuntimeException> NO_SUCH = IndexOutOfBoundsException.class;
     static final Class<? extends RuntimeException> BAD_NUMBER = IllegalArgumentException.class;
     static final Class<? extends RuntimeException> NOT_NOW = IllegalStateException.class;
@@ -44,6 +49,15 @@ final class Check {
             throw new AssertionError("threw " + got + ", due is " + want);
         }
         same(land.digest(), before);
+    }
+
+    /** Numbers just below and just above the limits, and as far from them as there are, are refused. */
+    static void refusesOutside(
+            RumourCustoms land, Class<? extends RuntimeException> want, int least, int most, CallWith call) {
+        int[] outside = {least - 1, most + 1, Integer.MIN_VALUE, Integer.MAX_VALUE};
+        for (int number : outside) {
+            refuses(land, want, () -> call.make(number));
+        }
     }
 
     /** The class threw it itself: neither the machine nor the library found the fault. */

@@ -47,4 +47,58 @@ final class Lands {
             land.take(i / 6, i);
         }
     }
+
+    /**
+     * Towns 0 and 1 with a road of 3 hours, tariff 10, surcharge 7 and strictness 9. Rumour 0 (8 words,
+     * 2 proofs) was found at the gate and is gone; carrier 0 is in town 1, with a purse of 760.
+     */
+    static RumourCustoms withGoneRumour() {
+        RumourCustoms land = withRoad(9, 1000);
+        hidden(land, 0, 8, 2);
+        land.go(0, 1, 0);
+        land.pass(3);
+        return land;
+    }
+
+    /** A town with 60 rumours of one word; carrier 0 is there, with 0 and 1 in the bag. */
+    static RumourCustoms withAllRumours() {
+        RumourCustoms land = withTowns(1);
+        land.addCarrier(0, 0);
+        inBag(land, 0, 1, 0);
+        inBag(land, 0, 1, 0);
+        for (int i = 2; i < 60; i++) {
+            land.makeUp(0, 1, 0);
+        }
+        return land;
+    }
+
+    /**
+     * All 60 rumours are of one family, and rumour n has the depth n: as deep as one can go. Towns 0 and 1
+     * have a road without any duty. Carrier 0 is in town 0 and has the last rumours in the bag; the others
+     * are in town 1.
+     */
+    static RumourCustoms withDeepest() {
+        RumourCustoms land = withTowns(2);
+        land.build(0, 1, 1, 0, 0, 0);
+        land.addCarrier(0, 1000000);
+        inBag(land, 0, 1, 5);
+        for (int depth = 1; depth < 60; depth++) {
+            if (land.carrier(0, 3) == 6) {
+                leaveElsewhere(land, depth - 6, depth - 2);
+            }
+            land.tell(0, depth - 1);
+            land.take(0, depth);
+        }
+        return land;
+    }
+
+    private static void leaveElsewhere(RumourCustoms land, int first, int last) {
+        land.go(0, 1, 0);
+        land.pass(1);
+        for (int i = first; i <= last; i++) {
+            land.leave(0, i);
+        }
+        land.go(0, 0, 0);
+        land.pass(1);
+    }
 }

@@ -140,35 +140,59 @@ final class WaysTest {
             land.makeUp(0, 1 + dice.below(30), dice.below(6));
             for (int rumour = 3; rumour <= 4; rumour++) {
                 int to = dice.below(towns);
-                int due = leastOfAllWays(land, rumour, 0, to, land.rumour(rumour, 2), 1);
+                AllWays ways = new AllWays(land, rumour, to);
+                int due = ways.least(0, land.rumour(rumour, 2), 1);
                 Check.same(land.cheapest(rumour, 0, to, 0), due < 0 ? -1 : due / 100);
                 Check.same(land.cheapest(rumour, 0, to, 1), due < 0 ? -1 : due % 100);
             }
         }
     }
 
-    /** 100 times the duties, and the hours, of the best way that goes on from here; -1 without one. */
-    private static int leastOfAllWays(RumourCustoms land, int rumour, int here, int to, int proofs, int seen) {
-        if (here == to) {
-            return 0;
-        }
-        int least = -1;
-        for (int next = 0; next < land.count(1); next++) {
-            if (land.road(here, next, 0) == 0 || (seen >> next & 1) == 1) {
-                continue;
-            }
-            int duty = land.road(here, next, 2) * land.rumour(rumour, 0)
-                    + land.road(here, next, 3) * land.rumour(rumour, 1);
-            for (int burnt = 0; burnt <= proofs; burnt++) {
-                int rest = leastOfAllWays(land, rumour, next, to, proofs - burnt, seen | 1 << next);
-                int all = duty * 100 + land.road(here, next, 1) + rest;
-                if (rest >= 0 && (least < 0 || all < least)) {
-                    least = all;
+    /** All ways of a rumour to a town, over roads that are asked for once: an object has 512 calls. */
+    private static final class AllWays {
+        private final int to;
+        private final int[][] hours;
+        private final int[][] duties;
+
+        AllWays(RumourCustoms land, int rumour, int to) {
+            this.to = to;
+            int towns = land.count(1);
+            int length = land.rumour(rumour, 0);
+            int depth = land.rumour(rumour, 1);
+            hours = new int[towns][towns];
+            duties = new int[towns][towns];
+            for (int a = 0; a < towns; a++) {
+                for (int b = a + 1; b < towns; b++) {
+                    hours[a][b] = land.road(a, b, 1);
+                    hours[b][a] = hours[a][b];
+                    duties[a][b] = land.road(a, b, 2) * length + land.road(a, b, 3) * depth;
+                    duties[b][a] = duties[a][b];
                 }
-                duty /= 2;
             }
         }
-        return least;
+
+        /** 100 times the duties, and the hours, of the best way that goes on from here; -1 without one. */
+        int least(int here, int proofs, int seen) {
+            if (here == to) {
+                return 0;
+            }
+            int least = -1;
+            for (int next = 0; next < hours.length; next++) {
+                if (hours[here][next] == 0 || (seen >> next & 1) == 1) {
+                    continue;
+                }
+                int duty = duties[here][next];
+                for (int burnt = 0; burnt <= proofs; burnt++) {
+                    int rest = least(next, proofs - burnt, seen | 1 << next);
+                    int all = duty * 100 + hours[here][next] + rest;
+                    if (rest >= 0 && (least < 0 || all < least)) {
+                        least = all;
+                    }
+                    duty /= 2;
+                }
+            }
+            return least;
+        }
     }
 
     static void promise20HowFarAFamilyHasCome() {
@@ -269,19 +293,22 @@ final class WaysTest {
     }
 
     static long digestOf(RumourCustoms land) {
+        int towns = land.count(1);
+        int rumours = land.count(3);
+        int carriers = land.count(5);
         long d = digestOf(499, 10, (none, what) -> land.count(what), 0);
-        for (int a = 0; a < land.count(1); a++) {
-            for (int b = a + 1; b < land.count(1); b++) {
+        for (int a = 0; a < towns; a++) {
+            for (int b = a + 1; b < towns; b++) {
                 int smaller = a;
                 if (land.road(a, b, 0) == 1) {
                     d = digestOf(d, 6, (greater, what) -> land.road(smaller, greater, what), b);
                 }
             }
         }
-        for (int i = 0; i < land.count(3); i++) {
+        for (int i = 0; i < rumours; i++) {
             d = digestOf(d, 6, land::rumour, i);
         }
-        for (int i = 0; i < land.count(5); i++) {
+        for (int i = 0; i < carriers; i++) {
             d = digestOf(d, 5, land::carrier, i);
         }
         return d;

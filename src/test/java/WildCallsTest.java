@@ -4,21 +4,42 @@ import java.util.function.LongSupplier;
 final class WildCallsTest {
     private static final int[] FAR = {Integer.MIN_VALUE, -60, -1, 60, 100, 1000, Integer.MAX_VALUE};
 
+    /** With the looks at the land between the calls, and those at its end, an object has fewer than 512 calls. */
+    private static final int CALLS = 90;
+
+    private final RumourCustoms land = new RumourCustoms();
+    private final Dice dice;
+    private int towns;
+    private int rumours;
+    private int carriers;
+
+    private WildCallsTest(Dice dice) {
+        this.dice = dice;
+    }
+
     static void aRefusedCallThrowsAnExceptionOfTheDocumentAndChangesNothing() {
         Dice dice = new Dice(1);
         int refused = 0;
-        for (int round = 0; round < 400; round++) {
-            RumourCustoms land = new RumourCustoms();
-            for (int i = 0; i < 170; i++) {
-                long before = land.digest();
-                if (!isAnswered(wildCall(land, dice))) {
-                    refused++;
-                    Check.same(land.digest(), before);
-                }
-            }
-            checkSums(land);
+        for (int round = 0; round < 700; round++) {
+            refused += new WildCallsTest(dice).refusedOfARun();
         }
         Check.holds(refused > 10000, "too few calls were refused: " + refused);
+    }
+
+    private int refusedOfARun() {
+        int refused = 0;
+        long before = land.digest();
+        for (int i = 0; i < CALLS; i++) {
+            boolean isAnswered = isAnswered(wildCall());
+            long behind = land.digest();
+            if (!isAnswered) {
+                refused++;
+                Check.same(behind, before);
+            }
+            before = behind;
+        }
+        checkSums(land);
+        return refused;
     }
 
     static void everyQuestionCanBeAskedOfEmptyLands() {
@@ -47,21 +68,24 @@ final class WildCallsTest {
 
     /** What is told in one place agrees with what is told in another. */
     private static void checkSums(RumourCustoms land) {
+        int towns = land.count(1);
+        int carriers = land.count(5);
         long onRoads = 0;
-        for (int a = 0; a < land.count(1); a++) {
-            for (int b = a + 1; b < land.count(1); b++) {
+        for (int a = 0; a < towns; a++) {
+            for (int b = a + 1; b < towns; b++) {
                 onRoads += land.road(a, b, 6);
             }
         }
         long byCarriers = 0;
         long placed = land.count(4);
-        for (int i = 0; i < land.count(5); i++) {
+        for (int i = 0; i < carriers; i++) {
             byCarriers += land.carrier(i, 5);
-            placed += land.carrier(i, 3);
+            int inBag = land.carrier(i, 3);
+            placed += inBag;
             Check.holds(land.carrier(i, 2) >= 0, "a purse is below 0");
-            Check.holds(land.carrier(i, 3) <= 6, "more than 6 are in a bag");
+            Check.holds(inBag <= 6, "more than 6 are in a bag");
         }
-        for (int i = 0; i < land.count(1); i++) {
+        for (int i = 0; i < towns; i++) {
             placed += land.town(i, 0);
         }
         Check.same(onRoads, land.count(8) + land.count(9));
@@ -85,24 +109,21 @@ final class WildCallsTest {
     }
 
     /** A number below the bound for the most part, now and then one far out. */
-    private static int number(Dice dice, int bound) {
+    private int number(int bound) {
         return dice.below(25) == 0 ? FAR[dice.below(FAR.length)] : dice.below(bound);
     }
 
-    private static LongSupplier wildCall(RumourCustoms land, Dice dice) {
-        int towns = Math.max(1, land.count(1));
-        int rumours = Math.max(1, land.count(3));
-        int carriers = Math.max(1, land.count(5));
-        int a = number(dice, towns);
-        int b = number(dice, towns);
-        int rumour = number(dice, rumours);
-        int carrier = number(dice, carriers);
-        int what = number(dice, 8);
-        int burn = number(dice, 6);
+    private LongSupplier wildCall() {
+        int a = number(Math.max(1, towns));
+        int b = number(Math.max(1, towns));
+        int rumour = number(Math.max(1, rumours));
+        int carrier = number(Math.max(1, carriers));
+        int what = number(8);
+        int burn = number(6);
         boolean isHidden = dice.below(2) == 0;
         switch (dice.below(24)) {
             case 0:
-                return land::addTown;
+                return () -> towns = land.addTown() + 1;
             case 1:
             case 2:
                 return () -> land.build(a, b, what + 1, burn * 3, burn * 4, what);
@@ -110,7 +131,7 @@ final class WildCallsTest {
                 return () -> land.road(a, b, what);
             case 4:
             case 5:
-                return () -> land.makeUp(a, what + 1, burn);
+                return () -> rumours = land.makeUp(a, what + 1, burn) + 1;
             case 6:
                 return () -> land.rumour(rumour, what);
             case 7:
@@ -118,7 +139,7 @@ final class WildCallsTest {
             case 8:
                 return () -> land.heard(a, rumour);
             case 9:
-                return () -> land.addCarrier(a, 1000 * what);
+                return () -> carriers = land.addCarrier(a, 1000 * what) + 1;
             case 10:
             case 11:
             case 12:
@@ -129,11 +150,11 @@ final class WildCallsTest {
                 return () -> land.hide(carrier, rumour, isHidden);
             case 15:
             case 16:
-                return () -> land.tell(carrier, rumour);
+                return () -> rumours = Math.max(rumours, land.tell(carrier, rumour) + 1);
             case 17:
             case 18:
             case 19:
-                return () -> goAsForetold(land, carrier, a, burn);
+                return () -> goAsForetold(carrier, a, burn);
             case 20:
                 return () -> land.carrier(carrier, what) + land.count(what);
             case 21:
@@ -145,7 +166,7 @@ final class WildCallsTest {
         }
     }
 
-    private static long goAsForetold(RumourCustoms land, int carrier, int town, int burn) {
+    private long goAsForetold(int carrier, int town, int burn) {
         int foretold = land.wouldPay(carrier, town, burn);
         int paid = land.go(carrier, town, burn);
         Check.same(paid, foretold);
