@@ -23,6 +23,7 @@ public final class AllTests {
         EdgesOfWaysTest.class,
         EdgesOfExceptionsTest.class,
         WildCallsTest.class,
+        SecondReadingTest.class,
     };
 
     public static void main(String[] args) throws IllegalAccessException {

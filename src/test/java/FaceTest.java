@@ -75,6 +75,23 @@ final class FaceTest {
         Check.row(other::count, 0, 0, 0, 0, 0, 0, 0, 0, 0, 0, 0);
     }
 
+    /** The example of README.md answers what is written beside it. */
+    static void theExampleOfTheReadme() {
+        RumourCustoms land = new RumourCustoms();
+        int here = land.addTown();
+        int there = land.addTown();
+        land.build(here, there, 2, 10, 5, 4);
+        int rumour = land.makeUp(here, 12, 2);
+        int carrier = land.addCarrier(here, 500);
+        land.take(carrier, rumour);
+        Check.same(land.go(carrier, there, 1), 60);
+        Check.same(land.pass(2), 1);
+        int told = land.tell(carrier, rumour);
+        Check.same(told, 1);
+        Check.same(land.rumour(told, 1), land.rumour(rumour, 1) + 1);
+        Check.same(land.rumour(told, 4), there);
+    }
+
     private static String written(Method method) {
         StringBuilder text = new StringBuilder(method.getName()).append('(');
         Class<?>[] parameters = method.getParameterTypes();
