@@ -5,7 +5,7 @@ import java.util.Map;
 import java.util.TreeSet;
 
 /**
- * The document read a second time, apart from the class: what is in a town or in a bag is a set here, a
+ * The document read a second time, and built otherwise than the class: what is in a town or in a bag is a set here, a
  * family is followed back from parent to parent, a journey has the hour at which it ends, and the halves
  * are cut one by one.
  */
